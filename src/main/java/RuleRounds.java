@@ -192,14 +192,14 @@ public final class RuleRounds {
         Item pattern = new Item(HOLDS, relation, book.columns[relation], a, b, c);
         Rule question = new Rule(pattern);
         question.add(pattern);
-        return question.settle() ? matcher.countFrom(question, 0) : 0;
+        return question.settle() ? matcher.countMatches(question) : 0;
     }
 
     public int matches(int rule) throws IllegalArgumentException {
         if (rule < 0 || rule >= book.ruleCount) {
             throw new IllegalArgumentException("no such rule");
         }
-        return matcher.countFrom(book.rules[rule], 0);
+        return matcher.countMatches(book.rules[rule]);
     }
 
     private int sizeOf(int relation) {
@@ -626,8 +626,12 @@ public final class RuleRounds {
             return check.kind == LESS ? a < b : a != b;
         }
 
+        int countMatches(Rule rule) {
+            return countFrom(rule, 0);
+        }
+
         /** How many matches the rule has with the values that its first HOLDS, as many as the depth, have given. */
-        int countFrom(Rule rule, int depth) {
+        private int countFrom(Rule rule, int depth) {
             if (!checksHold(rule, depth)) {
                 return 0;
             }

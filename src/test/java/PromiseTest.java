@@ -369,6 +369,7 @@ public final class PromiseTest {
         Checks.due("10 cycle", RuleRounds.CYCLE, bare.step());
         Checks.due("10 no round", 0, bare.rounds());
         notIsKnownBeforeItIsUsed();
+        aLaterTupleMakesTheMatch();
     }
 
     private static void notIsKnownBeforeItIsUsed() {
@@ -382,6 +383,24 @@ public final class PromiseTest {
         Checks.due("10 stratum 1", 0, x.step());
         Checks.due("10 so this never follows", false, x.has(2, 3, 0, 0));
         Checks.due("10 done", RuleRounds.DONE, x.step());
+    }
+
+    /** The head has its value at once, but only the last tuples of each HOLDS go together. */
+    private static void aLaterTupleMakesTheMatch() {
+        RuleRounds x = withRelations(2, 2, 1);
+        for (int i = 0; i < 5; i++) {
+            x.fact(0, 1, i, 0);
+        }
+        x.fact(1, 4, 6, 0);
+        x.fact(1, 4, 7, 0);
+        x.head(2, 9, 0, 0);
+        x.item(HOLDS, 0, X, Y, 0);
+        x.item(HOLDS, 1, Y, Z, 0);
+        x.item(OTHER, 0, Z, 6, 0);
+        x.rule();
+        Checks.due("10 one match", 1, x.matches(0));
+        Checks.due("10 is enough", 1, x.step());
+        Checks.due("10 for the head's tuple", true, x.has(2, 9, 0, 0));
     }
 
     private static void promise10StepFull() {
