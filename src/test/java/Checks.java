@@ -2,16 +2,14 @@
 final class Checks {
     private static int made = 0;
     private static int wrong = 0;
+    /** Stands before each answer that is printed. */
+    private static String place = "";
 
     private Checks() {
     }
 
     static void due(String what, long want, long got) {
-        made++;
-        if (want != got) {
-            wrong++;
-            System.out.println(what + " answered " + got + ", due is " + want);
-        }
+        due(what, Long.toString(want), Long.toString(got));
     }
 
     static void due(String what, boolean want, boolean got) {
@@ -22,7 +20,7 @@ final class Checks {
         made++;
         if (!want.equals(got)) {
             wrong++;
-            System.out.println(what + " answered " + got + ", due is " + want);
+            System.out.println(place + what + " answered " + got + ", due is " + want);
         }
     }
 
@@ -34,13 +32,22 @@ final class Checks {
         due(what, "IllegalStateException", thrownBy(call));
     }
 
-    private static String thrownBy(Runnable call) {
+    static String thrownBy(Runnable call) {
         try {
             call.run();
         } catch (RuntimeException e) {
             return e.getClass().getSimpleName();
         }
         return "no exception";
+    }
+
+    /** A test of its own: it looks at one answer at least, and an exception in it is wrong, but ends no other test. */
+    static void within(String name, Runnable test) {
+        int madeBefore = made;
+        place = name + ": ";
+        due("the test", "no exception", thrownBy(test));
+        due("whether it looks at an answer", true, made > madeBefore + 1);
+        place = "";
     }
 
     static void end() {

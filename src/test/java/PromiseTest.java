@@ -1,14 +1,13 @@
 /** The promises 1 to 17, a method each: ordinary inputs, the edges that the document names, and wrong inputs. */
 public final class PromiseTest {
-    private static final int HOLDS = 0;
-    private static final int NOT = 1;
-    private static final int LESS = 2;
-    private static final int OTHER = 3;
-    /** Variables. */
-    private static final int X = 64;
-    private static final int Y = 65;
-    private static final int Z = 66;
-    private static final int LAST = 71;
+    private static final int HOLDS = Made.HOLDS;
+    private static final int NOT = Made.NOT;
+    private static final int LESS = Made.LESS;
+    private static final int OTHER = Made.OTHER;
+    private static final int X = Made.X;
+    private static final int Y = Made.Y;
+    private static final int Z = Made.Z;
+    private static final int LAST = Made.LAST;
 
     public static void main(String[] args) {
         promise1NewObject();
@@ -72,7 +71,7 @@ public final class PromiseTest {
     }
 
     private static void promise3Fact() {
-        RuleRounds x = withRelations(1, 2, 3);
+        RuleRounds x = Made.relations(1, 2, 3);
         Checks.due("3 new", true, x.fact(0, 63, 0, 0));
         Checks.due("3 not new", false, x.fact(0, 63, 0, 0));
         Checks.due("3 the same numbers elsewhere", true, x.fact(1, 63, 0, 0));
@@ -104,9 +103,9 @@ public final class PromiseTest {
     }
 
     private static void derivedTupleAsFact() {
-        RuleRounds x = withRelations(1, 1);
+        RuleRounds x = Made.relations(1, 1);
         x.fact(0, 5, 0, 0);
-        copyRule(x, 1, 0);
+        Made.copy(x, 1, 0);
         Checks.due("3 derived", 1, x.run());
         Checks.due("3 a derived tuple is new among facts", true, x.fact(1, 5, 0, 0));
         Checks.due("3 it is one tuple", 1, x.count(1));
@@ -117,8 +116,8 @@ public final class PromiseTest {
     }
 
     private static void promise4Drop() {
-        RuleRounds x = withRelations(1, 1, 3);
-        copyRule(x, 1, 0);
+        RuleRounds x = Made.relations(1, 1, 3);
+        Made.copy(x, 1, 0);
         x.fact(0, 5, 0, 0);
         x.fact(2, 1, 2, 3);
         x.fact(2, 1, 2, 4);
@@ -141,8 +140,8 @@ public final class PromiseTest {
     }
 
     private static void factThatIsDerivedToo() {
-        RuleRounds x = withRelations(1, 1);
-        copyRule(x, 1, 0);
+        RuleRounds x = Made.relations(1, 1);
+        Made.copy(x, 1, 0);
         x.fact(0, 5, 0, 0);
         x.fact(1, 5, 0, 0);
         Checks.due("4 all is given", 0, x.run());
@@ -155,7 +154,7 @@ public final class PromiseTest {
     // ---- 5 to 7: rules --------------------------------------------------------------------------------
 
     private static void promise5Head() {
-        RuleRounds x = withRelations(1, 2, 3);
+        RuleRounds x = Made.relations(1, 2, 3);
         Checks.argument("5 relation -1", () -> x.head(-1, 0, 0, 0));
         Checks.argument("5 relation 3", () -> x.head(3, 0, 0, 0));
         Checks.argument("5 a is 72", () -> x.head(0, 72, 0, 0));
@@ -177,7 +176,7 @@ public final class PromiseTest {
     }
 
     private static void promise6Item() {
-        RuleRounds x = withRelations(1, 2, 3);
+        RuleRounds x = Made.relations(1, 2, 3);
         Checks.state("6 no head", () -> x.item(HOLDS, 0, X, 0, 0));
         Checks.argument("6 argument ahead of no head", () -> x.item(4, 0, X, 0, 0));
         x.head(0, 1, 0, 0);
@@ -214,7 +213,7 @@ public final class PromiseTest {
     }
 
     private static void promise6ItemLimits() {
-        RuleRounds x = withRelations(1);
+        RuleRounds x = Made.relations(1);
         x.head(0, X, 0, 0);
         for (int i = 1; i <= 3; i++) {
             Checks.due("6 HOLDS " + i, i, x.item(HOLDS, 0, X, 0, 0));
@@ -238,7 +237,7 @@ public final class PromiseTest {
     }
 
     private static void promise7Rule() {
-        RuleRounds x = withRelations(1);
+        RuleRounds x = Made.relations(1);
         Checks.state("7 no head", () -> x.rule());
         for (int i = 0; i < 24; i++) {
             x.head(0, i, 0, 0);
@@ -255,7 +254,7 @@ public final class PromiseTest {
     }
 
     private static void promise7RuleSafety() {
-        RuleRounds x = withRelations(1, 3);
+        RuleRounds x = Made.relations(1, 3);
         x.fact(0, 9, 0, 0);
         x.head(0, X, 0, 0);
         Checks.due("7 a head's variable", RuleRounds.UNSAFE, x.rule());
@@ -278,9 +277,9 @@ public final class PromiseTest {
         x.head(1, X, Y, Z);
         x.item(HOLDS, 1, X, Y, 0);
         Checks.due("7 the head's c", RuleRounds.UNSAFE, x.rule());
-        RuleRounds kept = withRelations(1, 1);
+        RuleRounds kept = Made.relations(1, 1);
         kept.fact(0, 1, 0, 0);
-        copyRule(kept, 1, 0);
+        Made.copy(kept, 1, 0);
         kept.run();
         kept.head(1, X, 0, 0);
         Checks.due("7 UNSAFE", RuleRounds.UNSAFE, kept.rule());
@@ -290,49 +289,49 @@ public final class PromiseTest {
     // ---- 8 and 9: strata ------------------------------------------------------------------------------
 
     private static void promise8Strata() {
-        RuleRounds x = withRelations(1, 1, 1);
+        RuleRounds x = Made.relations(1, 1, 1);
         Checks.due("8 without rules", 1, x.strata());
-        rule(x, 1, HOLDS, 0, NOT, 0);
+        Made.rule(x, 1, HOLDS, 0, NOT, 0);
         Checks.due("8 NOT", 2, x.strata());
-        rule(x, 2, HOLDS, 1, HOLDS, 0);
+        Made.rule(x, 2, HOLDS, 1, HOLDS, 0);
         Checks.due("8 HOLDS", 2, x.strata());
-        rule(x, 2, HOLDS, 2, NOT, 1);
+        Made.rule(x, 2, HOLDS, 2, NOT, 1);
         Checks.due("8 a NOT above", 3, x.strata());
-        rule(x, 0, HOLDS, 0, HOLDS, 0);
+        Made.rule(x, 0, HOLDS, 0, HOLDS, 0);
         Checks.due("8 a HOLDS of itself", 3, x.strata());
-        rule(x, 0, HOLDS, 2, HOLDS, 2);
+        Made.rule(x, 0, HOLDS, 2, HOLDS, 2);
         Checks.due("8 a NOT in a ring", RuleRounds.CYCLE, x.strata());
-        RuleRounds self = withRelations(1);
-        rule(self, 0, HOLDS, 0, NOT, 0);
+        RuleRounds self = Made.relations(1);
+        Made.rule(self, 0, HOLDS, 0, NOT, 0);
         Checks.due("8 a NOT of itself", RuleRounds.CYCLE, self.strata());
         Checks.due("8 a relation more", 1, self.relation(1));
         Checks.due("8 still", RuleRounds.CYCLE, self.strata());
-        RuleRounds tall = withRelations(1, 1, 1, 1, 1, 1, 1, 1, 1, 1, 1, 1);
+        RuleRounds tall = Made.relations(1, 1, 1, 1, 1, 1, 1, 1, 1, 1, 1, 1);
         for (int i = 0; i < 11; i++) {
-            rule(tall, i, HOLDS, 11, NOT, i + 1);
+            Made.rule(tall, i, HOLDS, 11, NOT, i + 1);
         }
         Checks.due("8 as many as relations", 12, tall.strata());
         Checks.due("8 the top", 11, tall.stratum(0));
-        RuleRounds ring = withRelations(1, 1, 1, 1, 1, 1, 1, 1, 1, 1, 1, 1);
+        RuleRounds ring = Made.relations(1, 1, 1, 1, 1, 1, 1, 1, 1, 1, 1, 1);
         for (int i = 0; i < 12; i++) {
-            rule(ring, i, HOLDS, (i + 1) % 12, HOLDS, (i + 5) % 12);
+            Made.rule(ring, i, HOLDS, (i + 1) % 12, HOLDS, (i + 5) % 12);
         }
         Checks.due("8 a ring of HOLDS", 1, ring.strata());
-        rule(ring, 7, HOLDS, 7, NOT, 3);
+        Made.rule(ring, 7, HOLDS, 7, NOT, 3);
         Checks.due("8 one NOT in it", RuleRounds.CYCLE, ring.strata());
     }
 
     private static void promise9Stratum() {
-        RuleRounds x = withRelations(1, 1, 1, 1);
-        rule(x, 2, HOLDS, 0, NOT, 1);
-        rule(x, 3, HOLDS, 2, HOLDS, 0);
+        RuleRounds x = Made.relations(1, 1, 1, 1);
+        Made.rule(x, 2, HOLDS, 0, NOT, 1);
+        Made.rule(x, 3, HOLDS, 2, HOLDS, 0);
         Checks.due("9 no rule", 0, x.stratum(0));
         Checks.due("9 below", 0, x.stratum(1));
         Checks.due("9 above a NOT", 1, x.stratum(2));
         Checks.due("9 not below a HOLDS", 1, x.stratum(3));
         Checks.argument("9 relation -1", () -> x.stratum(-1));
         Checks.argument("9 relation 4", () -> x.stratum(4));
-        rule(x, 1, HOLDS, 3, HOLDS, 3);
+        Made.rule(x, 1, HOLDS, 3, HOLDS, 3);
         Checks.state("9 cycle", () -> x.stratum(0));
         Checks.argument("9 argument ahead of state", () -> x.stratum(4));
         RuleRounds bare = new RuleRounds();
@@ -342,9 +341,9 @@ public final class PromiseTest {
     // ---- 10 to 12: deriving ---------------------------------------------------------------------------
 
     private static void promise10Step() {
-        RuleRounds x = withRelations(2, 2, 2);
-        chain(x, 0, 4);
-        closure(x, 0, 1);
+        RuleRounds x = Made.relations(2, 2, 2);
+        Made.chain(x, 0, 4);
+        Made.closure(x, 0, 1);
         x.head(2, X, Y, 0);
         x.item(HOLDS, 1, X, Y, 0);
         x.item(NOT, 0, X, Y, 0);
@@ -361,11 +360,11 @@ public final class PromiseTest {
         Checks.due("10 done", RuleRounds.DONE, x.step());
         Checks.due("10 done again", RuleRounds.DONE, x.step());
         Checks.due("10 rounds", 7, x.rounds());
-        RuleRounds bare = withRelations(1);
+        RuleRounds bare = Made.relations(1);
         Checks.due("10 a round without rules", 0, bare.step());
         Checks.due("10 then done", RuleRounds.DONE, bare.step());
         Checks.due("10 it has a number", 1, bare.rounds());
-        rule(bare, 0, HOLDS, 0, NOT, 0);
+        Made.rule(bare, 0, HOLDS, 0, NOT, 0);
         Checks.due("10 cycle", RuleRounds.CYCLE, bare.step());
         Checks.due("10 no round", 0, bare.rounds());
         notIsKnownBeforeItIsUsed();
@@ -373,9 +372,9 @@ public final class PromiseTest {
     }
 
     private static void notIsKnownBeforeItIsUsed() {
-        RuleRounds x = withRelations(1, 1, 1);
-        rule(x, 2, HOLDS, 0, NOT, 1);
-        copyRule(x, 1, 0);
+        RuleRounds x = Made.relations(1, 1, 1);
+        Made.rule(x, 2, HOLDS, 0, NOT, 1);
+        Made.copy(x, 1, 0);
         x.fact(0, 3, 0, 0);
         Checks.due("10 relation 1 first, though its rule is the later", 1, x.step());
         Checks.due("10 it is there", true, x.has(1, 3, 0, 0));
@@ -387,7 +386,7 @@ public final class PromiseTest {
 
     /** The head has its value at once, but only the last tuples of each HOLDS go together. */
     private static void aLaterTupleMakesTheMatch() {
-        RuleRounds x = withRelations(2, 2, 1);
+        RuleRounds x = Made.relations(2, 2, 1);
         for (int i = 0; i < 5; i++) {
             x.fact(0, 1, i, 0);
         }
@@ -404,7 +403,7 @@ public final class PromiseTest {
     }
 
     private static void promise10StepFull() {
-        RuleRounds x = withRelations(1, 2, 1);
+        RuleRounds x = Made.relations(1, 2, 1);
         for (int i = 0; i < 16; i++) {
             x.fact(0, i, 0, 0);
         }
@@ -430,9 +429,9 @@ public final class PromiseTest {
     }
 
     private static void fullInALaterRound() {
-        RuleRounds x = withRelations(2, 2);
-        chain(x, 0, 24);
-        closure(x, 0, 1);
+        RuleRounds x = Made.relations(2, 2);
+        Made.chain(x, 0, 24);
+        Made.closure(x, 0, 1);
         int there = 24;
         int round = 0;
         for (int came = 24; there + came <= 300; came--) {
@@ -449,10 +448,10 @@ public final class PromiseTest {
     }
 
     private static void promise11Run() {
-        RuleRounds x = withRelations(2, 2);
+        RuleRounds x = Made.relations(2, 2);
         Checks.due("11 without rules", 0, x.run());
-        chain(x, 0, 5);
-        closure(x, 0, 1);
+        Made.chain(x, 0, 5);
+        Made.closure(x, 0, 1);
         Checks.due("11 all derived", 15, x.run());
         Checks.due("11 again", 15, x.run());
         Checks.due("11 it is done", RuleRounds.DONE, x.step());
@@ -467,7 +466,7 @@ public final class PromiseTest {
         x.rule();
         Checks.due("11 cycle", RuleRounds.CYCLE, x.run());
         Checks.due("11 nothing derived", 0, x.count(1));
-        RuleRounds full = withRelations(1, 2);
+        RuleRounds full = Made.relations(1, 2);
         for (int i = 0; i < 18; i++) {
             full.fact(0, i, 0, 0);
         }
@@ -481,7 +480,7 @@ public final class PromiseTest {
 
     /** More rounds than values: each tuple comes in a round of its own. */
     private static void longRun() {
-        RuleRounds x = withRelations(2, 2);
+        RuleRounds x = Made.relations(2, 2);
         for (int i = 0; i < 63; i++) {
             x.fact(0, i, i + 1, 0);
         }
@@ -501,10 +500,10 @@ public final class PromiseTest {
     }
 
     private static void promise12Rounds() {
-        RuleRounds x = withRelations(2, 2);
+        RuleRounds x = Made.relations(2, 2);
         Checks.due("12 none yet", 0, x.rounds());
-        chain(x, 0, 3);
-        closure(x, 0, 1);
+        Made.chain(x, 0, 3);
+        Made.closure(x, 0, 1);
         x.step();
         Checks.due("12 one", 1, x.rounds());
         x.run();
@@ -520,14 +519,14 @@ public final class PromiseTest {
     // ---- 13 to 17: what is there ----------------------------------------------------------------------
 
     private static void promise13Count() {
-        RuleRounds x = withRelations(1, 2, 1);
+        RuleRounds x = Made.relations(1, 2, 1);
         x.fact(0, 1, 0, 0);
         x.fact(0, 63, 0, 0);
         x.fact(1, 0, 0, 0);
         Checks.due("13 of 0", 2, x.count(0));
         Checks.due("13 of 1", 1, x.count(1));
         Checks.due("13 of 2", 0, x.count(2));
-        copyRule(x, 2, 0);
+        Made.copy(x, 2, 0);
         x.fact(2, 1, 0, 0);
         x.run();
         Checks.due("13 facts and derived ones", 2, x.count(2));
@@ -536,7 +535,7 @@ public final class PromiseTest {
     }
 
     private static void promise14Has() {
-        RuleRounds x = withRelations(1, 2, 3);
+        RuleRounds x = Made.relations(1, 2, 3);
         x.fact(0, 0, 0, 0);
         x.fact(2, 63, 63, 63);
         x.fact(2, 1, 2, 3);
@@ -556,7 +555,7 @@ public final class PromiseTest {
     }
 
     private static void promise15Tuple() {
-        RuleRounds x = withRelations(1, 3, 2);
+        RuleRounds x = Made.relations(1, 3, 2);
         x.fact(1, 5, 1, 1);
         x.fact(1, 1, 9, 0);
         x.fact(1, 1, 2, 8);
@@ -585,15 +584,15 @@ public final class PromiseTest {
     }
 
     private static void promise15TupleRoundAndRule() {
-        RuleRounds x = withRelations(2, 2);
-        chain(x, 0, 3);
+        RuleRounds x = Made.relations(2, 2);
+        Made.chain(x, 0, 3);
         x.fact(1, 3, 0, 0);
         x.head(1, X, Z, 0);
         x.item(HOLDS, 0, X, Y, 0);
         x.item(HOLDS, 1, Y, Z, 0);
         x.rule();
-        copyPairs(x, 1, 0);
-        copyPairs(x, 1, 0);
+        Made.copyPairs(x, 1, 0);
+        Made.copyPairs(x, 1, 0);
         x.run();
         Checks.due("15 the least rule of the first round", 1, x.tuple(1, 1, 4));
         Checks.due("15 (0, 1) came in it", 1, x.tuple(1, 1, 3));
@@ -609,10 +608,10 @@ public final class PromiseTest {
     }
 
     private static void theRuleOfTheEarlierRound() {
-        RuleRounds x = withRelations(1, 1, 1);
-        copyRule(x, 2, 1);
-        copyRule(x, 1, 0);
-        copyRule(x, 2, 0);
+        RuleRounds x = Made.relations(1, 1, 1);
+        Made.copy(x, 2, 1);
+        Made.copy(x, 1, 0);
+        Made.copy(x, 2, 0);
         x.fact(0, 4, 0, 0);
         x.run();
         Checks.due("15 rule 2 in round 1, not rule 0 in round 2", 2, x.tuple(2, 0, 4));
@@ -620,7 +619,7 @@ public final class PromiseTest {
     }
 
     private static void promise16Like() {
-        RuleRounds x = withRelations(1, 2, 3);
+        RuleRounds x = Made.relations(1, 2, 3);
         x.fact(0, 3, 0, 0);
         x.fact(0, 4, 0, 0);
         int[][] given = {{1, 1, 1}, {1, 1, 2}, {1, 2, 1}, {2, 1, 1}, {1, 2, 3}, {2, 2, 63}};
@@ -649,7 +648,7 @@ public final class PromiseTest {
         Checks.argument("16 b does not count", () -> x.like(0, X, X, 0));
         Checks.argument("16 c does not count", () -> x.like(1, X, Y, Z));
         Checks.argument("16 c is 72", () -> x.like(2, X, Y, 72));
-        copyRule(x, 0, 0);
+        Made.copy(x, 0, 0);
         x.head(0, 9, 0, 0);
         x.rule();
         x.run();
@@ -660,7 +659,7 @@ public final class PromiseTest {
     }
 
     private static void promise17Matches() {
-        RuleRounds x = withRelations(1, 2, 1);
+        RuleRounds x = Made.relations(1, 2, 1);
         for (int i = 0; i < 5; i++) {
             x.fact(0, i, 0, 0);
         }
@@ -701,9 +700,9 @@ public final class PromiseTest {
     }
 
     private static void matchesByDerivedTuples() {
-        RuleRounds x = withRelations(2, 2);
-        chain(x, 0, 3);
-        closure(x, 0, 1);
+        RuleRounds x = Made.relations(2, 2);
+        Made.chain(x, 0, 3);
+        Made.closure(x, 0, 1);
         Checks.due("17 nothing derived yet", 0, x.matches(1));
         x.step();
         Checks.due("17 behind a round", 2, x.matches(1));
@@ -716,10 +715,10 @@ public final class PromiseTest {
 
     private static void whatTakesDerivedTuplesAway() {
         for (int way = 0; way < 4; way++) {
-            RuleRounds x = withRelations(1, 1);
+            RuleRounds x = Made.relations(1, 1);
             x.fact(0, 1, 0, 0);
             x.fact(0, 2, 0, 0);
-            copyRule(x, 1, 0);
+            Made.copy(x, 1, 0);
             Checks.due("derived", 2, x.run());
             if (way == 0) {
                 x.fact(0, 3, 0, 0);
@@ -728,7 +727,7 @@ public final class PromiseTest {
             } else if (way == 2) {
                 x.relation(1);
             } else {
-                copyRule(x, 1, 0);
+                Made.copy(x, 1, 0);
             }
             Checks.due("derived tuples go, way " + way, 0, x.count(1));
             Checks.due("rounds, way " + way, 0, x.rounds());
@@ -738,9 +737,9 @@ public final class PromiseTest {
     }
 
     private static void whatLeavesDerivedTuples() {
-        RuleRounds x = withRelations(1, 1);
+        RuleRounds x = Made.relations(1, 1);
         x.fact(0, 1, 0, 0);
-        copyRule(x, 1, 0);
+        Made.copy(x, 1, 0);
         x.run();
         x.fact(0, 1, 0, 0);
         x.drop(0, 2, 0, 0);
@@ -759,7 +758,7 @@ public final class PromiseTest {
 
     /** The most tuples, three HOLDS that have nothing in common, and checks that only the last one makes ready. */
     private static void largeRulesEnd() {
-        RuleRounds x = withRelations(2, 1);
+        RuleRounds x = Made.relations(2, 1);
         for (int i = 0; i < 200; i++) {
             x.fact(0, i % 50, i / 50, 0);
         }
@@ -779,52 +778,5 @@ public final class PromiseTest {
         x.rule();
         Checks.due("with a check at the end", 50 * 50 * 200 * 6, x.matches(1));
         Checks.due("50 follow", 50, x.run());
-    }
-
-    // ---- helpers --------------------------------------------------------------------------------------
-
-    private static RuleRounds withRelations(int... columns) {
-        RuleRounds x = new RuleRounds();
-        for (int width : columns) {
-            x.relation(width);
-        }
-        return x;
-    }
-
-    /** The facts (0, 1), (1, 2), .. */
-    private static void chain(RuleRounds x, int relation, int length) {
-        for (int i = 0; i < length; i++) {
-            x.fact(relation, i, i + 1, 0);
-        }
-    }
-
-    /** to(x, y) if from(x, y); to(x, z) if from(x, y) and to(y, z). */
-    private static void closure(RuleRounds x, int from, int to) {
-        copyPairs(x, to, from);
-        x.head(to, X, Z, 0);
-        x.item(HOLDS, from, X, Y, 0);
-        x.item(HOLDS, to, Y, Z, 0);
-        x.rule();
-    }
-
-    private static void copyPairs(RuleRounds x, int to, int from) {
-        x.head(to, X, Y, 0);
-        x.item(HOLDS, from, X, Y, 0);
-        x.rule();
-    }
-
-    /** to(x) if from(x). */
-    private static void copyRule(RuleRounds x, int to, int from) {
-        x.head(to, X, 0, 0);
-        x.item(HOLDS, from, X, 0, 0);
-        x.rule();
-    }
-
-    /** A rule of relations with one column, and two items. */
-    private static void rule(RuleRounds x, int head, int kind, int relation, int otherKind, int otherRelation) {
-        x.head(head, X, 0, 0);
-        x.item(kind, relation, X, 0, 0);
-        x.item(otherKind, otherRelation, X, 0, 0);
-        x.rule();
     }
 }
