@@ -189,6 +189,29 @@ final class AnswerBoundaries {
         Checks.due("a of one", 61, x.tuple(2, 0, 0));
         Checks.due("b of one", 0, x.tuple(2, 0, 1));
         Checks.due("c of one", 0, x.tuple(2, 0, 2));
+        valuesOfDerivedOnes();
+    }
+
+    /** A column that the relation does not have is 0, between tuples that have other numbers there. */
+    private static void valuesOfDerivedOnes() {
+        RuleRounds x = Made.relations(3, 1, 3, 2, 3);
+        for (int relation = 0; relation < 5; relation += 2) {
+            x.fact(relation, 63, 62, 61);
+        }
+        x.head(1, X, 0, 0);
+        x.item(HOLDS, 0, X, Y, Z);
+        x.rule();
+        x.head(3, Y, Z, 0);
+        x.item(HOLDS, 0, X, Y, Z);
+        x.rule();
+        Checks.due("derived", 2, x.run());
+        int[][] due = {{63, 62, 61}, {63, 0, 0}, {63, 62, 61}, {62, 61, 0}, {63, 62, 61}};
+        for (int relation = 0; relation < 5; relation++) {
+            for (int what = 0; what < 3; what++) {
+                Checks.due("what " + what + " of relation " + relation, due[relation][what],
+                        x.tuple(relation, 0, what));
+            }
+        }
     }
 
     private static void itsRound() {
@@ -235,6 +258,11 @@ final class AnswerBoundaries {
         }
         for (int relation : Numbers.none(4)) {
             Refused.argument("relation " + relation, AnswerBoundaries::corners, x -> x.tuple(relation, 0, 0));
+        }
+        for (int i = 1; i < 3; i++) {
+            final int what = i;
+            Refused.argument("place 2 of two, a column that is none", AnswerBoundaries::corners,
+                    x -> x.tuple(0, 2, what));
         }
         Checks.due("the last place", 63, corners().tuple(2, 2, 2));
     }

@@ -139,6 +139,55 @@ final class GivenBoundaries {
         Checks.due("it is new among facts", true, x.fact(2, 63, 63, 0));
         Checks.due("once", false, x.fact(2, 63, 63, 0));
         Checks.due("it is there once", 2, x.count(2));
+        for (int i = 0; i <= 6; i++) {
+            final int steps = i;
+            Tour.staysBehind("a fact that is not new, behind " + steps + " steps", () -> steps(steps),
+                    y -> Checks.due("given again", false, y.fact(0, 1, 2, 0)));
+            Tour.staysBehind("one of a cycle, behind " + steps + " steps", () -> cycleBehind(steps),
+                    y -> Checks.due("given again", false, y.fact(0, 1, 2, 0)));
+        }
+        Tour.staysBehind("one of 200, when all is full", GivenBoundaries::full,
+                y -> Checks.due("given again", false, y.fact(0, 0, 0, 0)));
+    }
+
+    /** A chain of 4 and its closure, two strata, so many rounds behind their beginning. */
+    private static RuleRounds steps(int count) {
+        RuleRounds x = Made.relations(2, 2, 2);
+        Made.chain(x, 0, 4);
+        Made.closure(x, 0, 1);
+        x.head(2, Made.X, Made.X, 0);
+        x.item(HOLDS, 0, Made.X, Made.Y, 0);
+        x.item(NOT, 1, Made.Y, Made.X, 0);
+        x.rule();
+        for (int i = 0; i < count; i++) {
+            x.step();
+        }
+        return x;
+    }
+
+    private static RuleRounds cycleBehind(int steps) {
+        RuleRounds x = steps(steps);
+        x.head(0, 63, 63, 0);
+        x.item(NOT, 2, 63, 63, 0);
+        x.rule();
+        return x;
+    }
+
+    /** 200 facts, 100 derived tuples, and one more that would come. */
+    private static RuleRounds full() {
+        RuleRounds x = given(200);
+        for (int row = 0; row < 3; row++) {
+            x.head(1, row, Made.X, 0);
+            x.item(HOLDS, 0, 0, Made.X, 0);
+            x.item(LESS, 0, Made.X, 33, 0);
+            x.rule();
+        }
+        x.head(1, 62, 62, 0);
+        x.item(HOLDS, 1, 63, 63, 0);
+        x.rule();
+        Checks.due("300 are there", 100, x.step());
+        Checks.due("full", RuleRounds.FULL, x.step());
+        return x;
     }
 
     private static void factIllegalArgument() {
@@ -219,6 +268,18 @@ final class GivenBoundaries {
         }
         Checks.due("none is left", 0, all.count(0));
         Checks.due("none to drop", false, all.drop(0, 0, 0, 0));
+        for (int i = 0; i <= 6; i++) {
+            dropOfNone("behind " + i + " steps", steps(i), steps(i));
+            dropOfNone("of a cycle, behind " + i + " steps", cycleBehind(i), cycleBehind(i));
+        }
+        dropOfNone("when all is full", full(), full());
+    }
+
+    private static void dropOfNone(String what, RuleRounds asked, RuleRounds never) {
+        Checks.due("what is not there", false, asked.drop(0, 63, 62, 0));
+        Checks.due("a tuple that is derived, or may be", false, asked.drop(1, 63, 63, 0));
+        Checks.due("another one", false, asked.drop(1, 0, 4, 0));
+        Checks.due("a drop of none " + what + " leaves", Tour.of(never), Tour.of(asked));
     }
 
     private static void dropIllegalArgument() {

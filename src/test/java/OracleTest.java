@@ -64,6 +64,9 @@ public final class OracleTest {
     }
 
     private void go() {
+        if (random.nextInt(4) == 0) {
+            askWithoutRelations();
+        }
         int setUp = wide ? 50 : random.nextInt(30);
         for (int i = 0; i < setUp; i++) {
             build();
@@ -78,6 +81,16 @@ public final class OracleTest {
         }
         both("run()", o -> o ? oracle.run() : tested.run());
         lookAtAll();
+    }
+
+    private void askWithoutRelations() {
+        for (int i = 0; i < 4; i++) {
+            use();
+            makeAnyRule();
+            both("rule()", o -> o ? oracle.rule() : tested.rule());
+            callFact();
+            callDrop();
+        }
     }
 
     /** Every tuple with its round and rule, as far as the calls go. */

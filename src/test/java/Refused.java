@@ -15,8 +15,6 @@ final class Refused {
     }
 
     private static void refuse(String due, String what, Supplier<RuleRounds> made, Consumer<RuleRounds> call) {
-        RuleRounds asked = made.get();
-        Checks.due(what, due, Checks.thrownBy(() -> call.accept(asked)));
-        Checks.due(what + " leaves", Tour.of(made.get()), Tour.of(asked));
+        Tour.staysBehind(what, made, x -> Checks.due(what, due, Checks.thrownBy(() -> call.accept(x))));
     }
 }

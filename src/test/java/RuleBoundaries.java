@@ -189,12 +189,17 @@ final class RuleBoundaries {
                 Refused.argument("relation is " + number, RuleBoundaries::inTheMaking,
                         x -> x.item(kind, number, X, 63, 0));
                 Refused.argument("c is " + number, RuleBoundaries::inTheMaking, x -> x.item(kind, 0, X, 63, number));
+                Refused.argument("no relations, relation is " + number, RuleRounds::new,
+                        x -> x.item(kind, number, X, 63, 0));
+                Refused.argument("no relations, c is " + number, RuleRounds::new, x -> x.item(kind, 0, X, 63, number));
             }
             Refused.argument("relation is 2, of three columns", RuleBoundaries::inTheMaking,
                     x -> x.item(kind, 2, X, 63, 0));
             for (int number : Numbers.NO_TERMS) {
                 Refused.argument("a is " + number, RuleBoundaries::inTheMaking, x -> x.item(kind, 0, number, 1, 0));
                 Refused.argument("b is " + number, RuleBoundaries::inTheMaking, x -> x.item(kind, 0, 1, number, 0));
+                Refused.argument("no relations, a is " + number, RuleRounds::new, x -> x.item(kind, 0, number, 1, 0));
+                Refused.argument("no relations, b is " + number, RuleRounds::new, x -> x.item(kind, 0, 1, number, 0));
             }
             for (int term : new int[] {0, 63, 64, 71}) {
                 Checks.due("a is " + term, 2, inTheMaking().item(kind, 0, term, 1, 0));
@@ -211,6 +216,18 @@ final class RuleBoundaries {
             RuleRounds x = headless();
             Checks.argument("a head that is refused", () -> x.head(0, 72, 0, 0));
             Checks.state("is not told, kind " + kind, () -> x.item(kind, 0, 1, 0, 0));
+        }
+        comparisonWithoutRelations();
+    }
+
+    /** The 0 in the relation's place names none, so that it is fine where there is no relation 0. */
+    private static void comparisonWithoutRelations() {
+        for (int i = LESS; i <= OTHER; i++) {
+            final int kind = i;
+            for (int term : new int[] {0, 63, 64, 71}) {
+                Refused.state("no relations, a is " + term, RuleRounds::new, x -> x.item(kind, 0, term, 1, 0));
+                Refused.state("no relations, b is " + term, RuleRounds::new, x -> x.item(kind, 0, 1, term, 0));
+            }
         }
     }
 
@@ -299,9 +316,7 @@ final class RuleBoundaries {
         Checks.due("it has its item", 2, x.item(HOLDS, 0, Y, 0, 0));
         Checks.due("now it is one", 1, x.rule());
         Checks.due("of two HOLDS", 9, x.matches(1));
-        RuleRounds asked = unsafe();
-        asked.rule();
-        Checks.due("what UNSAFE leaves", Tour.of(unsafe()), Tour.of(asked));
+        Tour.staysBehind("UNSAFE", RuleBoundaries::unsafe, y -> y.rule());
     }
 
     private static void ruleWithoutHead() {

@@ -1,4 +1,6 @@
+import java.util.function.Consumer;
 import java.util.function.IntSupplier;
+import java.util.function.Supplier;
 
 /** What an object answers, as one text: all that can be seen of it first, then how it goes on from there. */
 final class Tour {
@@ -11,6 +13,13 @@ final class Tour {
 
     private Tour(RuleRounds x) {
         this.x = x;
+    }
+
+    /** Holds an object with the call behind it against one that was never asked. */
+    static void staysBehind(String what, Supplier<RuleRounds> made, Consumer<RuleRounds> call) {
+        RuleRounds asked = made.get();
+        call.accept(asked);
+        Checks.due(what + " leaves", of(made.get()), of(asked));
     }
 
     static String of(RuleRounds x) {
